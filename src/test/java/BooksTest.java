@@ -9,6 +9,7 @@ public final class BooksTest {
         faultsOfCounts();
         lay();
         layBeginsAnew();
+        fewerThanBefore();
         person();
         doing();
         occasion();
@@ -133,6 +134,16 @@ public final class BooksTest {
         Check.due("nothing undone", x.undo(), NO);
         Check.due("nothing kept", x.back(), NO);
         Check.due("nothing seen", x.forget(), 0);
+    }
+
+    private static void fewerThanBefore() {
+        RudeCoupons x = Check.laid("p0,9,0;p0,8,0;p0,7,0;");
+        x.wipe();
+        Check.write(x, "p0,2,0;");
+        x.lay();
+        Check.due("only his", x.count(5), 2);
+        Check.due("one alone", x.letGo(99, 0), 1);
+        Check.due("no second", x.person(1, 1), BAD);
     }
 
     private static void person() {

@@ -9,6 +9,7 @@ public final class EveningTest {
         heard();
         year();
         yearInOrder();
+        yearOfManyDays();
         yearFromToday();
         wrongNumbers();
         Check.end();
@@ -46,6 +47,7 @@ public final class EveningTest {
         Check.due("a thrifty one's", x.keepOne(1, 10, 5), 0);
         Check.due("a thrifty one's, more", x.keepOne(1, 17, 3), 1);
         Check.due("none", x.keepOne(2, 9, 9), NO);
+        Check.due("his only one", Check.laid("p0,1,0;d5,1,0;o0,0,0;").keepOne(0, 51, 1), 1);
         Check.due("of no use else", x.keepOne(3, 1, 1), 1);
         Check.due("of no use at all", x.keepOne(3, 0, 10), 0);
         Check.due("bad before no", x.keepOne(2, 100, 9), BAD);
@@ -129,6 +131,18 @@ public final class EveningTest {
         }
     }
 
+    private static void yearOfManyDays() {
+        // Told from the last DAY to the first, so that each goes ahead of all before it.
+        RudeCoupons x = Check.laid("p0,1,0;d1,1,0;d2,1,0;d3,1,0;d4,1,0;o9,0,0;o8,0,1;o7,0,2;o6,0,3;");
+        for (int z = 0; z < 60; z++) {
+            int want = 0;
+            for (int k = 3; k >= 0 && want == 0; k--) {
+                want = drawn(z, k) ? k + 1 : 0;
+            }
+            Check.due("year(" + z + ", 0) backwards", x.year(z, 0), want);
+        }
+    }
+
     private static void yearFromToday() {
         RudeCoupons x = Check.laid("p0,9,0;p2,9,0;d1,1,0;d2,1,0;d4,1,0;o0,0,0;o1,0,1;o2,0,2;o3,1,2;");
         int z = 0;
@@ -161,6 +175,7 @@ public final class EveningTest {
             Check.due("year what " + bad, x.year(0, bad), BAD);
         }
         Check.due("letGo(-1, 0)", x.letGo(-1, 0), BAD);
+        Check.due("letGo(-1, 1)", x.letGo(-1, 1), BAD);
         Check.due("letGo(100, 0)", x.letGo(100, 0), BAD);
         Check.due("letGo(0, 2)", x.letGo(0, 2), BAD);
         Check.due("letGo(0, -1)", x.letGo(0, -1), BAD);

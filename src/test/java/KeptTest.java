@@ -102,6 +102,12 @@ public final class KeptTest {
         x.back();
         Check.due("the text kept first", x.count(9), 8);
         Check.due("its fault", x.fault(), 7);
+        RudeCoupons full = Check.written("p".repeat(200));
+        full.keep();
+        full.wipe();
+        full.back();
+        Check.due("a full text", full.count(9), 200);
+        Check.due("still full", full.write('p'), FULL);
     }
 
     private static void seenIsNot() {

@@ -86,6 +86,9 @@ public final class PlansTest {
         Check.due("no more", x.giveBest(0), NONE);
         Check.due("by none", x.giveBest(1), NONE);
         Check.due("bad before none", x.giveBest(2), BAD);
+        RudeCoupons little = Check.laid("p0,1,0;p0,0,0;d5,1,0;d6,1,0;o0,0,0;o0,1,1;");
+        Check.due("grows by 1", little.giveBest(1), 1);
+        Check.due("0 to 1", little.giveBest(0), 1);
         RudeCoupons full = Check.laid("p0,15,0;p0,15,0;d5,3,0;" + "o0,0,0;".repeat(6));
         Check.due("none can be given", full.giveBest(0), NONE);
         Check.due("one alone", Check.laid("p0,3,0;d5,1,0;o0,0,0;").giveBest(0), NONE);
@@ -125,6 +128,8 @@ public final class PlansTest {
         Check.due("rationFor(9)", x.rationFor(9), 5);
         Check.due("rationFor(10)", x.rationFor(10), 15);
         Check.due("rationFor(999)", x.rationFor(999), 15);
+        Check.due("one is harmless", Check.laid("p0,9,0;p0,0,3;d5,1,3;d9,2,4;o0,0,0;o0,0,1;").rationFor(0), 1);
+        Check.due("he who is first suffers", Check.laid("p0,9,0;p0,0,9;d5,1,3;o0,1,0;").rationFor(2), 0);
         Check.due("none allowed", Check.laid("p0,9,0;p0,0,0;d5,1,1;o0,0,0;").rationFor(0), 0);
         x.ration(15);
         x.take(0);
