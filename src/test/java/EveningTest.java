@@ -69,7 +69,7 @@ public final class EveningTest {
         x.undo();
         x.undo();
         Check.due("undone", x.net(2), 10004);
-        for (int n = 0; n < 200; n++) {
+        for (int n = 0; n < 100; n++) {
             x.ration(15);
             x.give(0, 1, 0);
             x.ration(0);
