@@ -361,6 +361,9 @@ public final class EveningEdgesTest {
             }
             yearOf(told.toString(), 1 << first[row], 0);
         }
+        // By 2 the first two are drawn as well.
+        Check.due("told the other way", Check.laid("p0,1,0;d1,1,0;d2,1,0;o5,0,0;o4,0,1;").year(2, 0), 2);
+        Check.due("told in order", Check.laid("p0,1,0;d1,1,0;d2,1,0;o4,0,0;o5,0,1;").year(2, 0), 1);
     }
 
     private static void yearOf(String told, int worth, int left) {
